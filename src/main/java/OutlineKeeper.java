@@ -892,10 +892,12 @@ public final class OutlineKeeper {
         }
 
         void copyStyles(Styles from) {
-            System.arraycopy(from.kinds, 0, kinds, 0, kinds.length);
-            System.arraycopy(from.starts, 0, starts, 0, starts.length);
-            System.arraycopy(from.own, 0, own, 0, own.length);
-            System.arraycopy(from.on, 0, on, 0, on.length);
+            for (int level = 1; level <= MAX_LEVEL; level++) {
+                kinds[level] = from.kinds[level];
+                starts[level] = from.starts[level];
+                own[level] = from.own[level];
+                on[level] = from.on[level];
+            }
         }
 
         void putKind(int level, int kind, int start) {
@@ -1089,12 +1091,9 @@ public final class OutlineKeeper {
         }
 
         void copyAll(Outline from) {
-            count = from.count;
             styles.copyStyles(from.styles);
-            System.arraycopy(from.names, 0, names, 0, MAX_HEADINGS);
-            System.arraycopy(from.levels, 0, levels, 0, MAX_HEADINGS);
-            System.arraycopy(from.plain, 0, plain, 0, MAX_HEADINGS);
-            System.arraycopy(from.folded, 0, folded, 0, MAX_HEADINGS);
+            count = 0;
+            addRange(from, 0, from.count);
         }
 
         void putPlain(int place, boolean isPlain) {

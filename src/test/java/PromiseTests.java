@@ -203,6 +203,18 @@ public final class PromiseTests {
         fails("two bytes more than 699", x, NO_STATE, () -> x.append(0x01000000, 0, 0, 0, 1));
         due("not a part of them", x.size(5), 699);
         due("one byte more than 699", x.append(0, 0, 0x00010000, 0, 0), 700);
+        x.find(false);
+        for (int i = 0; i < 34; i++) {
+            x.append(-1, -1, -1, -1, -1);
+        }
+        due("up to 685", x.append(-1, 0, 1, 0, 0), 685);
+        fails("by all parameters", x, NO_STATE, () -> x.append(-1, -1, -1, -1, 0));
+        fails("by the first one", x, NO_STATE, () -> x.append(1, -1, -1, -1, -1));
+        fails("by the second one", x, NO_STATE, () -> x.append(-1, 1, -1, -1, -1));
+        fails("by the third one", x, NO_STATE, () -> x.append(-1, -1, 1, -1, -1));
+        fails("by the fourth one", x, NO_STATE, () -> x.append(-1, -1, -1, 1, -1));
+        fails("by the fifth one", x, NO_STATE, () -> x.append(-1, -1, -1, -1, 1));
+        due("four parameters", x.append(0x01020300, -1, 0x01020003, -1, 0x00010000), 700);
     }
 
     private static void promise3() {
@@ -249,6 +261,7 @@ public final class PromiseTests {
         due("move behind", playedRow("move 1 5 behind;"), "1a 2e 1f 2g 1b 2c 2d");
         due("move first", playedRow("move 1 5 first;"), "1a 2e 1f 2b 3c 3d 2g");
         due("move last", playedRow("move 1 5 last;"), "1a 2e 1f 2g 2b 3c 3d");
+        due("done, though the act answers 0", play(keeper(TREE), "move 5 0 ahead;") + " " + play(keeper("*a;"), "dissolve 0;") + " " + play(keeper("*a;"), "sort 0;"), "1 1 0");
         due("an empty script", x.play() + " " + error(x), "0 0 at -1");
         due("it stops at a refusal", play(y, "fold 0;fold 0;remove 0;"), 1);
         due("which is counted", accounts(y) + " " + row(y), "9 0 0 0 0 0 0 1 1f+ 2g");
@@ -430,6 +443,7 @@ public final class PromiseTests {
         x.undo();
         due("folded ones", x.size(7), 2);
         due("like numbers, empty ones not", x.size(8), 0);
+        due("the first one folded", keeper("*a folded;*b;").size(7), 1);
         x.setStyle(3, 0, 1);
         x.setMode(2, true, false);
         due("like numbers: e and a, each of the two counts", numbers(x) + " " + x.size(8), "1 - 1 2 1 2 - 5");
@@ -478,6 +492,8 @@ public final class PromiseTests {
         due("the greatest COUNT", y.heading(59, 9) + " " + number(y, 59), "158 158");
         y.setStyle(1, 3, 99);
         due("Roman above 99", number(y, 0) + " " + number(y, 1) + " " + number(y, 39) + " " + number(y, 50) + " " + number(y, 59), "XCIX C CXXXVIII CXLIX CLVIII");
+        y.setStyle(1, 4, 99);
+        due("small Roman above 99", number(y, 1) + " " + number(y, 39), "c cxxxviii");
         y.setStyle(1, 1, 99);
         due("letters above 99", number(y, 0) + " " + number(y, 6) + " " + number(y, 59), "CU DA FB");
         OutlineKeeper z = keeper("*a;**b;***c;****d;*****e;******f;" + "style1small from 88;style2small from 88;style3small from 88;style4small from 88;style5small from 88;style6small from 88;");
@@ -630,6 +646,15 @@ public final class PromiseTests {
         due("empty ones stay empty", keeper("*a plain;*b;**c plain;").changedBy(0, 1, 1), 0);
         due("one becomes empty", keeper("style 2 none;*a;*b;").changedBy(1, 0, 2), 1);
         due("like texts of two styles", keeper("style 2 roman own;style 1 upper from 8;*a;*b;").changedBy(1, 0, 2), 0);
+        due("deep ones that stay", keeper(CHAIN + "*g;").changedBy(6, 0, 1), 0);
+        OutlineKeeper y = keeper("*a;*b;");
+        y.setStyle(1, 5, 1);
+        due("styles of now", y.changedBy(0, 1, 1), 0);
+        y.setStyle(1, 2, 7);
+        y.setStyle(2, 3, 1);
+        y.setMode(2, true, false);
+        y.setStyle(1, 1, 9);
+        due("like texts by styles of now", y.changedBy(0, 1, 2) + " " + number(y, 0), "1 I");
         due("refused by its level", keeper(CHAIN + "*g;").changedBy(6, 5, 2), NONE);
         due("on", keeper("style 2 decimal on;*a;**b;*c;**d;**e;").changedBy(0, 2, 1), 5);
         fails("way 4", x, NO_ARGUMENT, () -> x.changedBy(0, 0, 4));
@@ -652,6 +677,7 @@ public final class PromiseTests {
         due("too deep", y.cheapest(0, 2), NONE);
         due("refused ones do not count", y.cheapest(5, 6) + " " + y.cheapest(4, 6), "42 -1");
         due("one heading alone", keeper("*a;").cheapest(0, 1), NONE);
+        due("all 60 change", keeper(many(60)).cheapest(0, 2), 12);
         due("a level between", y.cheapest(6, 4), 23);
         fails("no heading", x, NO_INDEX, () -> x.cheapest(4, 1));
         fails("no heading", x, NO_INDEX, () -> x.cheapest(-1, 1));
