@@ -1,175 +1,11 @@
-import java.util.NoSuchElementException;
-
 /** For each promise of the document: ordinary calls, the edges that it names, and wrong ones. */
-public final class PromiseTests {
-    private static final int NONE = OutlineKeeper.NONE;
-    private static final Class<?> NO_INDEX = IndexOutOfBoundsException.class;
-    private static final Class<?> NO_ARGUMENT = IllegalArgumentException.class;
-    private static final Class<?> NO_STATE = IllegalStateException.class;
-    private static final Class<?> NO_ELEMENT = NoSuchElementException.class;
-    private static final int[] WRONG_PLACES = {-2, 60, Integer.MIN_VALUE, Integer.MAX_VALUE};
-    private static final int[] WRONG_LEVELS = {0, 7, -1, Integer.MIN_VALUE, Integer.MAX_VALUE};
-
-    private static final String TREE = "*a;**b;***c;***d;**e;*f;**g;";
-    private static final String CHAIN = "*a;**b;***c;****d;*****e;******f;";
-
-    private static int checks = 0;
-    private static int wrong = 0;
-    private static String promise = "";
-
-    // ---- helpers
-
-    private static void due(String what, Object got, Object want) {
-        checks++;
-        if (!want.equals(got)) {
-            wrong++;
-            System.out.println(promise + ": " + what + ": got <" + got + ">, due is <" + want + ">");
-        }
-    }
-
-    /** The call has to throw this, and to change nothing that can be seen. */
-    private static void fails(String what, OutlineKeeper x, Class<?> due, Runnable call) {
-        String before = all(x);
-        Class<?> got = null;
-        try {
-            call.run();
-        } catch (RuntimeException e) {
-            got = e.getClass();
-        }
-        due(what, got == null ? "no exception" : got.getSimpleName(), due.getSimpleName());
-        due(what + " changes nothing", all(x), before);
-    }
-
-    private static OutlineKeeper keeper(String outline) {
-        OutlineKeeper x = new OutlineKeeper();
-        text(x, outline);
-        if (x.load() == NONE) {
-            due("the outline " + outline, "error " + x.errorCode() + " at " + x.errorPosition(), "no error");
-        }
-        return x;
-    }
-
-    private static void text(OutlineKeeper x, String text) {
-        for (int i = 0; i < text.length(); i += 20) {
-            int[] p = new int[5];
-            for (int j = i; j < Math.min(i + 20, text.length()); j++) {
-                p[(j - i) / 4] |= text.charAt(j) << 24 - 8 * ((j - i) % 4);
-            }
-            x.append(p[0], p[1], p[2], p[3], p[4]);
-        }
-    }
-
-    private static int load(OutlineKeeper x, String text) {
-        text(x, text);
-        return x.load();
-    }
-
-    private static int play(OutlineKeeper x, String text) {
-        text(x, text);
-        return x.play();
-    }
-
-    private static int find(OutlineKeeper x, String text, boolean isNumber) {
-        text(x, text);
-        return x.find(isNumber);
-    }
-
-    private static int insert(OutlineKeeper x, String name, int target, int way) {
-        text(x, name);
-        return x.insert(target, way, name.length());
-    }
-
-    private static String name(OutlineKeeper x, int place) {
-        StringBuilder s = new StringBuilder();
-        for (int i = 0; x.letter(place, i) != NONE; i++) {
-            s.append((char) x.letter(place, i));
-        }
-        return s.toString();
-    }
-
-    private static String number(OutlineKeeper x, int place) {
-        StringBuilder s = new StringBuilder();
-        for (int i = 0; x.number(place, i) != NONE; i++) {
-            s.append((char) x.number(place, i));
-        }
-        return s.toString();
-    }
-
-    private static String numbers(OutlineKeeper x) {
-        StringBuilder s = new StringBuilder();
-        for (int i = 0; i < x.size(0); i++) {
-            s.append(i == 0 ? "" : " ").append(number(x, i).isEmpty() ? "-" : number(x, i));
-        }
-        return s.toString();
-    }
-
-    /** The headings as an outline with no spaces: levels and names, p for a plain, + for a folded one. */
-    private static String row(OutlineKeeper x) {
-        StringBuilder s = new StringBuilder();
-        for (int i = 0; i < x.size(0); i++) {
-            s.append(i == 0 ? "" : " ").append(x.heading(i, 0)).append(name(x, i));
-            s.append(x.heading(i, 6) == 1 ? "!" : "").append(x.heading(i, 7) == 1 ? "+" : "");
-        }
-        return s.toString();
-    }
-
-    private static String styles(OutlineKeeper x) {
-        StringBuilder s = new StringBuilder();
-        for (int level = 1; level <= 6; level++) {
-            s.append(level == 1 ? "" : " ");
-            for (int what = 0; what <= 3; what++) {
-                s.append(what == 0 ? "" : ",").append(x.style(level, what));
-            }
-        }
-        return s.toString();
-    }
-
-    private static String accounts(OutlineKeeper x) {
-        StringBuilder s = new StringBuilder();
-        for (int what = 0; what <= 7; what++) {
-            s.append(what == 0 ? "" : " ").append(x.account(what));
-        }
-        return s.toString();
-    }
-
-    private static String latestOutput(OutlineKeeper x) {
-        StringBuilder s = new StringBuilder();
-        while (true) {
-            try {
-                s.append((char) x.output(s.length()));
-            } catch (IndexOutOfBoundsException e) {
-                return s.toString();
-            }
-        }
-    }
-
-    private static String written(OutlineKeeper x) {
-        int length = x.write();
-        String s = latestOutput(x);
-        due("the length that write() told", length, s.length());
-        return s;
-    }
-
-    private static String all(OutlineKeeper x) {
-        return row(x) + "|" + styles(x) + "|" + accounts(x) + "|" + x.size(5) + "|" + x.size(6) + "|" + x.errorCode()
-            + "|" + x.errorPosition() + "|" + latestOutput(x);
-    }
-
-    private static String error(OutlineKeeper x) {
-        return x.errorCode() + " at " + x.errorPosition();
-    }
-
-    /** An outline that has this many headings, all of level 1 with the name a. */
-    private static String many(int headings) {
-        return "*a;".repeat(headings);
-    }
-
-    private static final String FIRST_STYLES = "0,1,0,0 0,1,0,0 0,1,0,0 0,1,0,0 0,1,0,0 0,1,0,0";
+public final class PromiseTests extends Checks {
+    private static final int[] WRONG_PLACES = {-2, 60, LEAST, GREATEST};
 
     // ---- texts
 
     private static void promise1() {
-        OutlineKeeper x = new OutlineKeeper();
+        Keeper x = new Keeper();
         due("NONE", NONE, -1);
         due("a new one", all(x), "|" + FIRST_STYLES + "|0 0 0 0 0 0 0 0|0|0|0|-1|");
         for (int what = 0; what <= 8; what++) {
@@ -179,12 +15,12 @@ public final class PromiseTests {
         fails("no saved state 0", x, NO_STATE, () -> x.restore(0));
         fails("no saved state 1", x, NO_STATE, () -> x.restore(1));
         fails("nothing to undo", x, NO_STATE, x::undo);
-        OutlineKeeper y = keeper(TREE);
+        Keeper y = keeper(TREE);
         due("objects are apart", x.size(0) + " " + y.size(0), "0 7");
     }
 
     private static void promise2() {
-        OutlineKeeper x = new OutlineKeeper();
+        Keeper x = new Keeper();
         due("all zero", x.append(0, 0, 0, 0, 0), 0);
         due("order of bytes", x.append(0x61620000, 0x00006300, 0x00000064, 0x65000066, 0), 6);
         due("the most significant byte first", x.insert(-1, 0, 6), 0);
@@ -218,7 +54,7 @@ public final class PromiseTests {
     }
 
     private static void promise3() {
-        OutlineKeeper x = new OutlineKeeper();
+        Keeper x = new Keeper();
         due("an outline", load(x, " *a ; \n** bb plain;***c folded;**d plain folded ;*e\n"), NONE);
         due("ends too early", error(x), "1 at 52");
         due("an outline", load(x, " *a ; \n** bb plain;***c folded;**d plain folded ;*e;\n"), 5);
@@ -249,12 +85,12 @@ public final class PromiseTests {
     }
 
     private static void promise4() {
-        OutlineKeeper x = keeper(TREE);
+        Keeper x = keeper(TREE);
         due("a script", play(x, " demote 5;move 1 4 behind;fold 0 ; sort\n0;"), 4);
         due("the row then", row(x), "1a+ 2b 3c 3d 2e 2f 3g");
         due("each command is an act", x.account(0) + " " + x.size(6), "4 4");
         due("undone one by one", x.undo() + " " + row(x), "3 1a+ 2e 2b 3c 3d 2f 3g");
-        OutlineKeeper y = keeper(TREE);
+        Keeper y = keeper(TREE);
         due("all commands", play(y, "move 2 0 first;promote 1;demote 1;fold 0;unfold 0;dissolve 1;remove 0;sort 0;"), 8);
         due("all commands", row(y), "1f 2g");
         due("move ahead", playedRow("move 5 0 ahead;"), "1f 2g 1a 2b 3c 3d 2e");
@@ -271,7 +107,7 @@ public final class PromiseTests {
         due("and that is no refusal", accounts(y), "11 0 0 0 0 0 0 1");
         due("a sort without children", play(y, "sort 1;") + " " + y.account(6), "0 1");
         due("places are those of then", play(y, "remove 0;remove 0;remove 0;") + " " + y.size(0), "2 0");
-        OutlineKeeper z = keeper(TREE);
+        Keeper z = keeper(TREE);
         String before = all(z);
         due("an error", play(z, "remove 0;remove 0;remove") + " " + error(z), "-1 1 at 24");
         due("nothing else changes", all(z), before.replace("|0|0|0|-1|", "|0|0|1|24|"));
@@ -280,23 +116,23 @@ public final class PromiseTests {
     }
 
     private static String playedRow(String script) {
-        OutlineKeeper x = keeper(TREE);
+        Keeper x = keeper(TREE);
         play(x, script);
         return row(x);
     }
 
     private static void outlineError(String text, String want) {
-        OutlineKeeper x = new OutlineKeeper();
+        Keeper x = new Keeper();
         due(text, load(x, text) + ": " + error(x) + ", " + x.size(5), "-1: " + want + ", 0");
     }
 
     private static void scriptError(String text, String want) {
-        OutlineKeeper x = new OutlineKeeper();
+        Keeper x = new Keeper();
         due(text, play(x, text) + ": " + error(x) + ", " + x.size(5), "-1: " + want + ", 0");
     }
 
     private static void promise5() {
-        OutlineKeeper x = new OutlineKeeper();
+        Keeper x = new Keeper();
         due("no such call", x.errorCode(), 0);
         outlineError("a;", "1 at 0");
         outlineError(" plain;", "1 at 1");
@@ -373,7 +209,7 @@ public final class PromiseTests {
         scriptError("fold0;".repeat(40) + " sort 99", "4 at 241");
         scriptError("fold0;".repeat(40) + "walk", "1 at 240");
         scriptError("fold0;".repeat(40) + ";", "1 at 240");
-        OutlineKeeper x = new OutlineKeeper();
+        Keeper x = new Keeper();
         due("a place without a heading is no error", play(x, "fold 0059;") + " " + error(x), "0 0 at -1");
         play(x, "walk");
         due("an error stays", x.errorCode(), 1);
@@ -388,7 +224,7 @@ public final class PromiseTests {
     }
 
     private static void promise6() {
-        OutlineKeeper x = new OutlineKeeper();
+        Keeper x = new Keeper();
         due("no such call", x.errorPosition(), NONE);
         load(x, "*a; *");
         due("an early end", x.errorPosition(), 5);
@@ -403,7 +239,7 @@ public final class PromiseTests {
     }
 
     private static void promise7() {
-        OutlineKeeper x = keeper("style 2 upper;" + TREE + "*a;**b;");
+        Keeper x = keeper("style 2 upper;" + TREE + "*a;**b;");
         due("a name", find(x, "b", false), 1);
         due("the buffer is empty", x.size(5), 0);
         due("the first of several", find(x, "a", false), 0);
@@ -421,14 +257,14 @@ public final class PromiseTests {
         due("numbers of now", find(x, "A", true) + " " + find(x, "1", true), "1 5");
         due("a name of 8 letters", find(keeper("*abcdefg;*abcdefgh;"), "abcdefgh", false), 1);
         due("a name of 9 letters", find(keeper("*abcdefgh;"), "abcdefghi", false), NONE);
-        OutlineKeeper y = keeper("style1upper;style2roman own;style3upper own;*x;**x;***x;");
+        Keeper y = keeper("style1upper;style2roman own;style3upper own;*x;**x;***x;");
         due("the first of like numbers", find(y, "I", true), 1);
     }
 
     // ---- what there is
 
     private static void promise8() {
-        OutlineKeeper x = keeper("*a;**b plain folded;***c;***d;**e;*f folded;**g plain;style 3 none;");
+        Keeper x = keeper("*a;**b plain folded;***c;***d;**e;*f folded;**g plain;style 3 none;");
         due("headings", x.size(0), 7);
         due("visible ones", x.size(1), 4);
         due("numbered ones", x.size(2), 3);
@@ -454,7 +290,7 @@ public final class PromiseTests {
     }
 
     private static void promise9() {
-        OutlineKeeper x = keeper("style 2 roman from 8;*a;**b folded;***c plain;****dd;***d;**e;*f;**g;");
+        Keeper x = keeper("style 2 roman from 8;*a;**b folded;***c plain;****dd;***d;**e;*f;**g;");
         String[] due = {
             "1 -1 2 6 4 0 0 0 1 1 1 1", "2 0 2 4 4 0 0 1 1 8 6 1", "3 1 1 2 4 0 1 0 0 -1 0 1", "4 2 0 1 4 0 0 0 0 1 1 2",
             "3 1 0 1 3 1 0 0 0 1 8 1", "2 0 0 1 2 1 0 0 1 9 4 1", "1 -1 1 2 2 1 0 0 1 2 1 1", "2 6 0 1 2 0 0 0 1 8 6 1"};
@@ -480,7 +316,7 @@ public final class PromiseTests {
         due("own", numbers(keeper("style 2 upper own;*a;**b;***c;*d;**e;")), "1 A A.1 2 A");
         due("below a plain one", numbers(keeper("*a plain;**b;***c;*d;")), "- 1 1.1 1");
         due("below none", numbers(keeper("style 2 none;*a;**b;***c;***d;**e;***f;")), "1 - 1 2 - 1");
-        OutlineKeeper x = keeper("style 1 upper from 25;" + many(30));
+        Keeper x = keeper("style 1 upper from 25;" + many(30));
         due("letters", numbers(x).substring(0, 14), "Y Z AA AB AC A");
         x.setStyle(1, 2, 51);
         due("small letters", numbers(x).substring(0, 14), "ay az ba bb bc");
@@ -488,7 +324,7 @@ public final class PromiseTests {
         due("Roman", numbers(x).substring(0, 30), "XXXVIII XXXIX XL XLI XLII XLII");
         x.setStyle(1, 4, 88);
         due("small Roman", numbers(x).substring(0, 26), "lxxxviii lxxxix xc xci xci");
-        OutlineKeeper y = keeper("style 1 decimal from 99;" + many(60));
+        Keeper y = keeper("style 1 decimal from 99;" + many(60));
         due("the greatest COUNT", y.heading(59, 9) + " " + number(y, 59), "158 158");
         y.setStyle(1, 3, 99);
         due("Roman above 99", number(y, 0) + " " + number(y, 1) + " " + number(y, 39) + " " + number(y, 50) + " " + number(y, 59), "XCIX C CXXXVIII CXLIX CLVIII");
@@ -496,12 +332,12 @@ public final class PromiseTests {
         due("small Roman above 99", number(y, 1) + " " + number(y, 39), "c cxxxviii");
         y.setStyle(1, 1, 99);
         due("letters above 99", number(y, 0) + " " + number(y, 6) + " " + number(y, 59), "CU DA FB");
-        OutlineKeeper z = keeper("*a;**b;***c;****d;*****e;******f;" + "style1small from 88;style2small from 88;style3small from 88;style4small from 88;style5small from 88;style6small from 88;");
+        Keeper z = keeper("*a;**b;***c;****d;*****e;******f;" + "style1small from 88;style2small from 88;style3small from 88;style4small from 88;style5small from 88;style6small from 88;");
         due("the longest of such", z.heading(5, 10) + " " + number(z, 5), "53 " + "lxxxviii.".repeat(5) + "lxxxviii");
     }
 
     private static void promise10() {
-        OutlineKeeper x = keeper("*abcdefgh;*z;");
+        Keeper x = keeper("*abcdefgh;*z;");
         due("first", x.letter(0, 0), (int) 'a');
         due("last", x.letter(0, 7), (int) 'h');
         due("behind", x.letter(0, 8) + " " + x.letter(1, 1), "-1 -1");
@@ -512,7 +348,7 @@ public final class PromiseTests {
     }
 
     private static void promise11() {
-        OutlineKeeper x = keeper("*a;**b;*c plain;");
+        Keeper x = keeper("*a;**b;*c plain;");
         due("the bytes", x.number(1, 0) + " " + x.number(1, 1) + " " + x.number(1, 2), "49 46 49");
         due("behind", x.number(1, 3) + " " + x.number(2, 0), "-1 -1");
         due("far", x.number(1, -1) + " " + x.number(1, Integer.MAX_VALUE) + " " + x.number(1, Integer.MIN_VALUE), "-1 -1 -1");
@@ -521,7 +357,7 @@ public final class PromiseTests {
     }
 
     private static void promise12() {
-        OutlineKeeper x = keeper("style 6 none from 42 own;style 1 roman on;");
+        Keeper x = keeper("style 6 none from 42 own;style 1 roman on;");
         due("styles", styles(x), "3,1,0,1 0,1,0,0 0,1,0,0 0,1,0,0 0,1,0,0 5,42,1,0");
         fails("what -1", x, NO_ARGUMENT, () -> x.style(1, -1));
         fails("what 4", x, NO_ARGUMENT, () -> x.style(6, 4));
@@ -531,7 +367,7 @@ public final class PromiseTests {
     }
 
     private static void promise13() {
-        OutlineKeeper x = keeper(TREE);
+        Keeper x = keeper(TREE);
         due("children", x.child(0, 0) + " " + x.child(0, 1) + " " + x.child(1, 1), "1 4 3");
         due("without a parent", x.child(NONE, 0) + " " + x.child(NONE, 1), "0 5");
         fails("no third child", x, NO_ELEMENT, () -> x.child(0, 2));
@@ -542,12 +378,12 @@ public final class PromiseTests {
         for (int place : WRONG_PLACES) {
             fails("no heading ahead of no child", x, NO_INDEX, () -> x.child(place, 99));
         }
-        OutlineKeeper y = new OutlineKeeper();
+        Keeper y = new Keeper();
         fails("no headings", y, NO_ELEMENT, () -> y.child(NONE, 0));
     }
 
     private static void promise14() {
-        OutlineKeeper x = keeper(TREE);
+        Keeper x = keeper(TREE);
         due("the parent of both", x.common(2, 3), 1);
         due("an ancestor of both", x.common(2, 4) + " " + x.common(4, 2), "0 0");
         due("one in the branch of the other", x.common(1, 3) + " " + x.common(3, 0), "1 0");
@@ -559,16 +395,16 @@ public final class PromiseTests {
     }
 
     private static void promise15() {
-        OutlineKeeper x = keeper("*a;**b folded;***c folded;****h;***d;**e;*f folded;**g;");
+        Keeper x = keeper("*a;**b folded;***c folded;****h;***d;**e;*f folded;**g;");
         due("visible ones", x.visible(0) + " " + x.visible(1) + " " + x.visible(2) + " " + x.visible(3), "0 1 5 6");
         due("no more", x.visible(4) + " " + x.visible(-1) + " " + x.visible(Integer.MAX_VALUE), "-1 -1 -1");
-        due("none", new OutlineKeeper().visible(0), NONE);
+        due("none", new Keeper().visible(0), NONE);
         x.fold(1, false);
         due("one folded below", x.visible(2) + " " + x.visible(3), "2 4");
     }
 
     private static void promise16() {
-        due("without headings", new OutlineKeeper().largest(), NONE);
+        due("without headings", new Keeper().largest(), NONE);
         due("the largest", keeper("*a;**b;*c;**d;**e;*f;").largest(), 2);
         due("the first one of several", keeper("*x;*a;**b;*c;**d;*f;").largest(), 1);
         due("all headings of the branch", keeper("*a;**b;**c;*d;**e;***f;****g;").largest(), 3);
@@ -576,7 +412,7 @@ public final class PromiseTests {
     }
 
     private static void promise17() {
-        OutlineKeeper x = keeper(CHAIN);
+        Keeper x = keeper(CHAIN);
         due("at first", accounts(x), "0 0 0 0 0 0 0 0");
         insert(x, "x", 5, 2);
         x.move(0, 1, 0);
@@ -601,15 +437,15 @@ public final class PromiseTests {
     }
 
     private static void promise18() {
-        due("without headings", new OutlineKeeper().share(), 0.0f);
-        OutlineKeeper x = keeper("*a folded;**b;*c;");
+        due("without headings", new Keeper().share(), 0.0f);
+        Keeper x = keeper("*a folded;**b;*c;");
         due("a share", x.share(), 2.0f / 3.0f);
         x.fold(0, false);
         due("all", x.share(), 1.0f);
     }
 
     private static void promise19() {
-        due("without headings", new OutlineKeeper().meanLevel(), 0.0);
+        due("without headings", new Keeper().meanLevel(), 0.0);
         due("a mean", keeper(TREE).meanLevel(), 14.0 / 7.0);
         due("not a whole one", keeper("*a;**b;**c;").meanLevel(), 5.0 / 3.0);
     }
@@ -617,7 +453,7 @@ public final class PromiseTests {
     // ---- what would be
 
     private static void promise20() {
-        OutlineKeeper x = keeper(CHAIN + "*g;");
+        Keeper x = keeper(CHAIN + "*g;");
         String before = all(x);
         due("it would be done", x.whyNot(5, 6, 0) + " " + x.whyNot(6, 0, 3) + " " + x.whyNot(6, 5, 1), "0 0 0");
         due("to where it is", x.whyNot(6, 0, 1) + " " + x.whyNot(1, 0, 2), "0 0");
@@ -634,7 +470,7 @@ public final class PromiseTests {
     }
 
     private static void promise21() {
-        OutlineKeeper x = keeper("*a;*b;*c;*d;");
+        Keeper x = keeper("*a;*b;*c;*d;");
         String before = all(x);
         due("where it is", x.changedBy(1, 0, 1) + " " + x.changedBy(1, 2, 0), "0 0");
         due("one place on", x.changedBy(0, 1, 1), 2);
@@ -647,7 +483,7 @@ public final class PromiseTests {
         due("one becomes empty", keeper("style 2 none;*a;*b;").changedBy(1, 0, 2), 1);
         due("like texts of two styles", keeper("style 2 roman own;style 1 upper from 8;*a;*b;").changedBy(1, 0, 2), 0);
         due("deep ones that stay", keeper(CHAIN + "*g;").changedBy(6, 0, 1), 0);
-        OutlineKeeper y = keeper("*a;*b;");
+        Keeper y = keeper("*a;*b;");
         y.setStyle(1, 5, 1);
         due("styles of now", y.changedBy(0, 1, 1), 0);
         y.setStyle(1, 2, 7);
@@ -664,7 +500,7 @@ public final class PromiseTests {
     }
 
     private static void promise22() {
-        OutlineKeeper x = keeper("*a;*b;*c;*d;");
+        Keeper x = keeper("*a;*b;*c;*d;");
         String before = all(x);
         due("where it is", x.cheapest(1, 1), 1);
         due("the first one where it is", x.cheapest(0, 1), 10);
@@ -673,7 +509,7 @@ public final class PromiseTests {
         due("the fewest of several", x.cheapest(0, 2), 12);
         due("no such level", x.cheapest(0, 3), NONE);
         due("nothing changes", all(x), before);
-        OutlineKeeper y = keeper(CHAIN + "*g;");
+        Keeper y = keeper(CHAIN + "*g;");
         due("too deep", y.cheapest(0, 2), NONE);
         due("refused ones do not count", y.cheapest(5, 6) + " " + y.cheapest(4, 6), "42 -1");
         due("one heading alone", keeper("*a;").cheapest(0, 1), NONE);
@@ -687,7 +523,7 @@ public final class PromiseTests {
     }
 
     private static void promise23() {
-        OutlineKeeper x = keeper("*a;**b folded;***c;****d;**e;*f;");
+        Keeper x = keeper("*a;**b folded;***c;****d;**e;*f;");
         String before = all(x);
         due("what it would hide", x.wouldHide(0), 2);
         due("folded already", x.wouldHide(1), 0);
@@ -712,14 +548,14 @@ public final class PromiseTests {
         }
         due("behind the last branch", insertedRow(5, 1), "7: 1a 2b 3c 3d 2e 1f 2g 1x");
         due("ahead of all", insertedRow(0, 0), "0: 1x 1a 2b 3c 3d 2e 1f 2g");
-        OutlineKeeper x = new OutlineKeeper();
+        Keeper x = new Keeper();
         text(x, "abcdefghi");
         due("the first bytes", x.insert(NONE, 3, 8) + " " + row(x) + " " + x.size(5), "0 1abcdefgh 0");
         text(x, "az;*7");
         due("the others do not matter", x.insert(0, 3, 2) + " " + row(x) + " " + x.size(5), "1 1abcdefgh 2az 0");
         due("undone", x.undo() + " " + row(x), "1 1abcdefgh");
         due("neither plain nor folded", insert(keeper("*a plain folded;**b plain folded;"), "x", 1, 0), 1);
-        OutlineKeeper plain = keeper("*a plain folded;**b plain folded;");
+        Keeper plain = keeper("*a plain folded;**b plain folded;");
         insert(plain, "x", 1, 0);
         due("neither plain nor folded", row(plain), "1a!+ 2x 2b!+");
         refusedInserts();
@@ -727,12 +563,12 @@ public final class PromiseTests {
     }
 
     private static void refusedInserts() {
-        OutlineKeeper x = keeper(CHAIN);
+        Keeper x = keeper(CHAIN);
         text(x, "xyz");
         due("a level above 6", x.insert(5, 2, 1) + " " + x.size(5) + " " + accounts(x) + " " + x.size(6), "-1 0 0 1 0 0 0 0 0 0 0");
         due("by the other way too", insert(x, "x", 5, 3), -1);
         due("the level 6", insert(x, "x", 5, 1) + " " + insert(x, "y", 5, 0), "6 5");
-        OutlineKeeper y = keeper(CHAIN + many(54));
+        Keeper y = keeper(CHAIN + many(54));
         text(y, "xyz");
         due("60 headings", y.insert(0, 0, 1) + " " + y.size(5) + " " + accounts(y) + " " + y.size(6), "-3 0 0 0 0 1 0 0 0 0 0");
         due("60 headings, at the end", insert(y, "x", NONE, 0), -3);
@@ -742,7 +578,7 @@ public final class PromiseTests {
     }
 
     private static void wrongInserts() {
-        OutlineKeeper x = keeper(TREE);
+        Keeper x = keeper(TREE);
         text(x, "abCdefghi");
         fails("way -1", x, NO_ARGUMENT, () -> x.insert(0, -1, 1));
         fails("way 4", x, NO_ARGUMENT, () -> x.insert(0, 4, 1));
@@ -765,17 +601,17 @@ public final class PromiseTests {
             fails("no letter", x, NO_ARGUMENT, () -> x.insert(NONE, 0, 1));
             x.find(false);
         }
-        OutlineKeeper full = keeper(many(60));
+        Keeper full = keeper(many(60));
         fails("an exception ahead of a reason", full, NO_ARGUMENT, () -> full.insert(0, 0, 1));
     }
 
     private static String insertedRow(int target, int way) {
-        OutlineKeeper x = keeper(TREE);
+        Keeper x = keeper(TREE);
         return insert(x, "x", target, way) + ": " + row(x);
     }
 
     private static void promise25() {
-        OutlineKeeper x = keeper(TREE);
+        Keeper x = keeper(TREE);
         due("a branch", x.remove(1) + " " + row(x), "3 1a 2e 1f 2g");
         due("a heading", x.remove(1) + " " + row(x), "1 1a 1f 2g");
         due("the last branch", x.remove(1) + " " + row(x), "2 1a");
@@ -789,7 +625,7 @@ public final class PromiseTests {
     }
 
     private static void promise26() {
-        OutlineKeeper x = keeper("*a;**b plain folded;***c folded;****d;***e;**f;");
+        Keeper x = keeper("*a;**b plain folded;***c folded;****d;***e;**f;");
         due("a branch", x.dissolve(1) + " " + row(x), "5 1a 2c+ 3d 2e 2f");
         due("the first heading", x.dissolve(0) + " " + row(x), "4 1c+ 2d 1e 1f");
         due("without children", x.dissolve(3) + " " + row(x), "3 1c+ 2d 1e");
@@ -801,7 +637,7 @@ public final class PromiseTests {
     }
 
     private static String movedRow(int place, int target, int way) {
-        OutlineKeeper x = keeper(TREE);
+        Keeper x = keeper(TREE);
         return x.move(place, target, way) + ": " + row(x);
     }
 
@@ -818,10 +654,10 @@ public final class PromiseTests {
         due("to the end of it", movedRow(1, 0, 3), "2: 1a 2e 2b 3c 3d 1f 2g");
         due("directly behind it", movedRow(4, 0, 1), "4: 1a 2b 3c 3d 1e 1f 2g");
         due("where it is", movedRow(1, 0, 2) + "; " + movedRow(1, 4, 0) + "; " + movedRow(4, 1, 1), "1: 1a 2b 3c 3d 2e 1f 2g; 1: 1a 2b 3c 3d 2e 1f 2g; 4: 1a 2b 3c 3d 2e 1f 2g");
-        OutlineKeeper x = keeper("*a;**b plain folded;***c folded;*d;");
+        Keeper x = keeper("*a;**b plain folded;***c folded;*d;");
         due("with all that it has", x.move(1, 3, 2) + " " + row(x), "2 1a 1d 2b!+ 3c+");
         due("an act", accounts(x) + " " + x.undo() + " " + row(x), "1 0 0 0 0 0 0 0 0 1a 2b!+ 3c+ 1d");
-        OutlineKeeper y = keeper(CHAIN + "*g;");
+        Keeper y = keeper(CHAIN + "*g;");
         String before = row(y);
         due("reasons", y.move(0, 0, 0) + " " + y.move(1, 5, 1) + " " + y.move(6, 5, 2) + " " + y.move(0, 6, 3), "-2 -2 -1 -1");
         due("both: the first reason", y.move(0, 5, 3), -2);
@@ -837,7 +673,7 @@ public final class PromiseTests {
     }
 
     private static void promise28() {
-        OutlineKeeper x = keeper(TREE);
+        Keeper x = keeper(TREE);
         due("a branch", x.promote(1) + " " + row(x), "1 1a 1b 2c 2d 2e 1f 2g");
         due("what follows becomes its child", x.heading(1, 2) + " " + x.child(1, 2), "3 4");
         due("an act", accounts(x) + " " + x.undo() + " " + row(x), "1 0 0 0 0 0 0 0 0 1a 2b 3c 3d 2e 1f 2g");
@@ -849,13 +685,13 @@ public final class PromiseTests {
     }
 
     private static void promise29() {
-        OutlineKeeper x = keeper(TREE);
+        Keeper x = keeper(TREE);
         due("a branch", x.demote(5) + " " + row(x), "2 1a 2b 3c 3d 2e 2f 3g");
         due("the last child of the sibling ahead", x.heading(5, 1) + " " + x.child(0, 2), "0 5");
         due("an act", accounts(x) + " " + x.undo() + " " + row(x), "1 0 0 0 0 0 0 0 0 1a 2b 3c 3d 2e 1f 2g");
         due("no sibling", x.demote(0) + " " + x.demote(1) + " " + x.demote(6) + " " + x.demote(2), "-5 -5 -5 -5");
         due("a plain sibling", keeper("*a plain;*b;").demote(1), 2);
-        OutlineKeeper y = keeper("*x;" + CHAIN + "******g;");
+        Keeper y = keeper("*x;" + CHAIN + "******g;");
         due("a level above 6", y.demote(7) + " " + y.demote(1), "-1 -1");
         due("both: the first reason", y.demote(6), -5);
         due("refused", row(y) + " " + accounts(y) + " " + y.size(6), "1x 1a 2b 3c 4d 5e 6f 6g 0 2 0 0 0 1 0 0 0");
@@ -865,7 +701,7 @@ public final class PromiseTests {
     }
 
     private static void promise30() {
-        OutlineKeeper x = keeper(TREE);
+        Keeper x = keeper(TREE);
         due("fold", x.fold(1, true) + " " + row(x), "5 1a 2b+ 3c 3d 2e 1f 2g");
         due("fold all", x.fold(0, true) + " " + x.fold(5, true), "3 2");
         due("unfold", x.fold(0, false) + " " + row(x), "4 1a 2b+ 3c 3d 2e 1f+ 2g");
@@ -882,7 +718,7 @@ public final class PromiseTests {
     }
 
     private static void promise31() {
-        OutlineKeeper x = keeper("*a folded;**b;***c;***d folded;**e;*f;**g folded;");
+        Keeper x = keeper("*a folded;**b;***c;***d folded;**e;*f;**g folded;");
         due("level 2", x.foldTo(2) + " " + row(x), "5 1a 2b+ 3c 3d 2e 1f 2g");
         due("level 1", x.foldTo(1) + " " + row(x), "2 1a+ 2b+ 3c 3d 2e 1f+ 2g");
         due("level 6", x.foldTo(6) + " " + row(x), "7 1a 2b 3c 3d 2e 1f 2g");
@@ -890,7 +726,7 @@ public final class PromiseTests {
         x.undo();
         x.undo();
         due("undone", row(x), "1a+ 2b+ 3c 3d 2e 1f+ 2g");
-        OutlineKeeper y = new OutlineKeeper();
+        Keeper y = new Keeper();
         due("without headings", y.foldTo(1) + " " + y.account(0), "0 1");
         for (int level : WRONG_LEVELS) {
             fails("no level", x, NO_INDEX, () -> x.foldTo(level));
@@ -898,7 +734,7 @@ public final class PromiseTests {
     }
 
     private static String sortedRow(String outline, int place, int by) {
-        OutlineKeeper x = keeper(outline);
+        Keeper x = keeper(outline);
         return x.sort(place, by) + ": " + row(x);
     }
 
@@ -914,11 +750,11 @@ public final class PromiseTests {
         for (int by = 0; by <= 2; by++) {
             due("one child alone", sortedRow("*a;**x;*b;", 0, by), "0: 1a 2x 1b");
         }
-        OutlineKeeper x = keeper("*b;**x;*a;");
+        Keeper x = keeper("*b;**x;*a;");
         due("no children", x.sort(1, 0) + " " + x.sort(2, 2) + " " + accounts(x) + " " + x.size(6), "-6 -6 0 0 0 0 0 0 2 0 0");
         due("an act", x.sort(NONE, 0) + " " + accounts(x) + " " + x.undo() + " " + row(x), "2 1 0 0 0 0 0 2 0 0 1b 2x 1a");
         due("sorted already, but an act", x.sort(0, 0) + " " + x.size(6), "0 1");
-        OutlineKeeper y = new OutlineKeeper();
+        Keeper y = new Keeper();
         due("no headings", y.sort(NONE, 1) + " " + y.account(6), "-6 1");
         fails("by -1", x, NO_ARGUMENT, () -> x.sort(0, -1));
         fails("by 3", x, NO_ARGUMENT, () -> x.sort(NONE, 3));
@@ -930,7 +766,7 @@ public final class PromiseTests {
     }
 
     private static void promise33() {
-        OutlineKeeper x = keeper("*a;**b;*c plain;*d;");
+        Keeper x = keeper("*a;**b;*c plain;*d;");
         due("plain", x.setPlain(0, true) + " " + row(x) + " " + numbers(x), "2 1a! 2b 1c! 1d - 1 - 1");
         due("not plain", x.setPlain(2, false) + " " + row(x) + " " + numbers(x), "3 1a! 2b 1c 1d - 1 1 2");
         due("already", x.setPlain(0, true) + " " + x.setPlain(1, false) + " " + accounts(x), "-7 -7 2 0 0 0 0 0 0 2");
@@ -941,7 +777,7 @@ public final class PromiseTests {
     }
 
     private static void promise34() {
-        OutlineKeeper x = keeper("style 2 roman from 5 own on;*a;**b;");
+        Keeper x = keeper("style 2 roman from 5 own on;*a;**b;");
         due("the style before", x.setStyle(2, 4, 99) + " " + x.setStyle(2, 5, 1) + " " + x.setStyle(1, 0, 1), "3 4 0");
         due("styles", styles(x), "0,1,0,0 5,1,1,1 0,1,0,0 0,1,0,0 0,1,0,0 0,1,0,0");
         due("undone", x.undo() + " " + x.undo() + " " + styles(x), "2 1 0,1,0,0 4,99,1,1 0,1,0,0 0,1,0,0 0,1,0,0 0,1,0,0");
@@ -957,7 +793,7 @@ public final class PromiseTests {
     }
 
     private static void promise35() {
-        OutlineKeeper x = keeper("style 3 roman from 5 own;");
+        Keeper x = keeper("style 3 roman from 5 own;");
         due("the modes before", x.setMode(3, true, true) + " " + x.setMode(3, false, true) + " " + x.setMode(3, false, false) + " " + x.setMode(3, true, false), "2 3 1 0");
         due("styles", styles(x), "0,1,0,0 0,1,0,0 3,5,1,0 0,1,0,0 0,1,0,0 0,1,0,0");
         due("undone", x.undo() + " " + x.undo() + " " + styles(x), "3 2 0,1,0,0 0,1,0,0 3,5,0,1 0,1,0,0 0,1,0,0 0,1,0,0");
@@ -970,15 +806,15 @@ public final class PromiseTests {
     // ---- output, undo, saved states
 
     private static void promise36() {
-        OutlineKeeper x = keeper("style 1 upper;*abc;**b plain folded;***c;**d;*e folded;");
+        Keeper x = keeper("style 1 upper;*abc;**b plain folded;***c;**d;*e folded;");
         due("the lines", written(x), "A abc\n b+\n A.1 d\nB e+\n");
         x.foldTo(1);
         due("it is replaced", written(x), "A abc+\nB e\n");
-        due("an empty one", new OutlineKeeper().write(), 0);
+        due("an empty one", new Keeper().write(), 0);
         x.remove(0);
         x.remove(0);
         due("it is replaced by an empty one", x.write() + latestOutput(x), "0");
-        OutlineKeeper y = keeper("*a;**b;***c;****d;*****e;" + "******f;".repeat(55));
+        Keeper y = keeper("*a;**b;***c;****d;*****e;" + "******f;".repeat(55));
         for (int level = 1; level <= 6; level++) {
             y.setStyle(level, 3, 88);
         }
@@ -987,7 +823,7 @@ public final class PromiseTests {
     }
 
     private static void promise37() {
-        OutlineKeeper x = keeper("*a plain;");
+        Keeper x = keeper("*a plain;");
         fails("not written yet", x, NO_INDEX, () -> x.output(0));
         x.write();
         due("bytes", x.output(0) + " " + x.output(1), "97 10");
@@ -1004,7 +840,7 @@ public final class PromiseTests {
     }
 
     private static void promise38() {
-        OutlineKeeper x = keeper(TREE);
+        Keeper x = keeper(TREE);
         fails("nothing to undo", x, NO_STATE, x::undo);
         for (int i = 1; i <= 10; i++) {
             x.setStyle(1, 0, i + 1);
@@ -1035,7 +871,7 @@ public final class PromiseTests {
     }
 
     private static void promise39() {
-        OutlineKeeper x = keeper(TREE);
+        Keeper x = keeper(TREE);
         x.fold(0, true);
         due("the headings", x.save(0) + " " + x.size(6), "7 1");
         x.remove(0);
@@ -1048,7 +884,7 @@ public final class PromiseTests {
     }
 
     private static void promise40() {
-        OutlineKeeper x = keeper("style 2 lower from 3 own;*a plain;**b;");
+        Keeper x = keeper("style 2 lower from 3 own;*a plain;**b;");
         x.save(1);
         x.write();
         text(x, "ab*");
@@ -1071,11 +907,6 @@ public final class PromiseTests {
         due("kept by a load", x.restore(1), 2);
     }
 
-    private static void run(int number, Runnable test) {
-        promise = "promise " + number;
-        test.run();
-    }
-
     public static void main(String[] args) {
         Runnable[] tests = {
             PromiseTests::promise1, PromiseTests::promise2, PromiseTests::promise3, PromiseTests::promise4,
@@ -1089,11 +920,8 @@ public final class PromiseTests {
             PromiseTests::promise33, PromiseTests::promise34, PromiseTests::promise35, PromiseTests::promise36,
             PromiseTests::promise37, PromiseTests::promise38, PromiseTests::promise39, PromiseTests::promise40};
         for (int i = 0; i < tests.length; i++) {
-            run(i + 1, tests[i]);
+            test("promise " + (i + 1), tests[i]);
         }
-        System.out.println(checks + " checks, " + wrong + " wrong");
-        if (wrong != 0) {
-            System.exit(1);
-        }
+        end();
     }
 }
