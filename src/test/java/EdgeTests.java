@@ -224,6 +224,10 @@ public final class EdgeTests extends Checks {
         due("the longest NUMBER", find(deep, "lxxxviii.".repeat(5) + "lxxxviii", true), 5);
         due("a byte less", find(deep, "lxxxviii.".repeat(5) + "lxxxvii", true), NONE);
         due("a byte more", find(deep, "lxxxviii.".repeat(5) + "lxxxviiii", true), NONE);
+        Keeper gone = keeper("*a;*b;*c;");
+        due("ahead of the end", find(gone, "3", true) + " " + find(gone, "c", false), "2 2");
+        gone.remove(2);
+        due("one that is gone", find(gone, "3", true) + " " + find(gone, "c", false), "-1 -1");
         sentence("the buffer is empty afterwards");
         due("found", find(x, "a", false) + " " + x.size(5), "1 0");
         due("not found", find(x, "q", false) + " " + x.size(5), "-1 0");
@@ -275,6 +279,8 @@ public final class EdgeTests extends Checks {
         due("alike from the end on alone", keeper("*a;**b;*c;**d;").size(8), 0);
         due("one longer", keeper("style2decimal own;*a;**b;***c;").size(8), 2);
         due("all of 60", keeper("style2decimal own;" + "*a;**b;".repeat(30)).size(8), 31);
+        Keeper alike = keeper("style2decimal own;*a;**b;");
+        due("with one that is gone then", alike.size(8) + " " + alike.remove(1) + " " + alike.size(8), "2 1 0");
     }
 
     private static String sizes(Keeper x) {
@@ -550,6 +556,7 @@ public final class EdgeTests extends Checks {
         due("ways of one target", keeper("*a;*b;").cheapest(1, 2), 2);
         due("a target above 9", keeper(many(12)).cheapest(11, 1) + " " + keeper(many(60)).cheapest(59, 1) + " " + keeper(many(60)).cheapest(58, 1), "101 581 571");
         due("fewer changes beat a lesser number", keeper("*a;**b;**c;*d;**e;").cheapest(4, 2), 32);
+        due("to the end of 60", keeper("*a;**b;" + many(58)).cheapest(1, 1), 591);
         due("plain ones ahead and behind", keeper("*a plain;*b;*c plain;*d;").cheapest(1, 1) + " " + keeper("*x;*a plain;*b;*c plain;*d;").cheapest(2, 1), "0 1");
         sentence("NONE if there is no such move");
         due("too deep a level", x.cheapest(0, 3) + " " + x.cheapest(0, 6), "-1 -1");
